@@ -130,6 +130,13 @@ public final class TellingsTest {
         Rows.due("removed there, too", x, 1, 3, "20");
         x.join(2, 1);
         Rows.due("a third desk is told of it", x, 2, 3, "20");
+        TrenchMerge y = new TrenchMerge();
+        y.insert(0, 3, NONE, 10);
+        y.join(1, 0);
+        y.remove(1, 0);
+        Rows.due("not where the place was told", y, 0, 3, "10");
+        y.join(0, 1);
+        Rows.due("before that desk is told", y, 0, 3, "");
     }
 
     private static void removeRefuses() {
