@@ -9,6 +9,8 @@ final class Check {
     static final String ARGUMENT = "throws.IllegalArgumentException";
     static final String STATE = "throws.IllegalStateException";
 
+    private static final int SHOWN = 120;
+
     private static int wrong = 0;
 
     private Check() {
@@ -30,7 +32,8 @@ final class Check {
     static void same(String what, String want, String got) {
         if (!want.equals(got)) {
             wrong++;
-            System.out.println(what + " answered " + got + ", due is " + want);
+            int from = firstDifference(want, got);
+            System.out.println(what + " answered " + part(got, from) + ", due is " + part(want, from));
         }
     }
 
@@ -39,5 +42,22 @@ final class Check {
             System.out.println(wrong + " answers are not as due");
             System.exit(1);
         }
+    }
+
+    private static int firstDifference(String one, String other) {
+        int i = 0;
+        while (i < one.length() && i < other.length() && one.charAt(i) == other.charAt(i)) {
+            i++;
+        }
+        return i;
+    }
+
+    /** Texts of all answers are long: the piece round the first difference tells enough. */
+    private static String part(String text, int from) {
+        if (text.length() <= SHOWN) {
+            return text;
+        }
+        int start = Math.max(0, Math.min(from, text.length()) - SHOWN / 2);
+        return ".." + text.substring(start, Math.min(text.length(), start + SHOWN)) + "..";
     }
 }
